@@ -219,9 +219,11 @@ public final class Countfall {
         boolean isTrue = false;
         for (int assignment = 0; assignment < countAssignments(); assignment++) {
             if (models.has(assignment)) {
-                boolean value = (assignment >> variable & 1) != 0;
-                isTrue |= value;
-                isFalse |= !value;
+                if ((assignment >> variable & 1) != 0) {
+                    isTrue = true;
+                } else {
+                    isFalse = true;
+                }
             }
         }
         if (isTrue) {
