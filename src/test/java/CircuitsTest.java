@@ -22,7 +22,7 @@ public final class CircuitsTest {
     }
 
     private static void ends() {
-        Countfall x = new Countfall();
+        Watched x = new Watched();
         Check.due("26: without variables", x.nodes(), 0);
         Check.due("28: the end for yes alone", x.ways(), 1L);
         Check.thrown(x, "27: variable", IndexOutOfBoundsException.class, () -> x.nodesFor(0));
@@ -39,7 +39,7 @@ public final class CircuitsTest {
     }
 
     private static void nodesAndWays() {
-        Countfall x = Check.with(3);
+        Watched x = Check.with(3);
         x.addParity(7, 1);
         Check.due("26: parity", x.nodes(), 5);
         Check.due("27: parity", x.nodesFor(0) * 100 + x.nodesFor(1) * 10 + x.nodesFor(2), 122);
@@ -73,7 +73,7 @@ public final class CircuitsTest {
 
     /** Pairs that are alike: few nodes if those of a pair are neighbours, many if they are apart. */
     private static void orders() {
-        Countfall x = Check.with(6);
+        Watched x = Check.with(6);
         x.addParity(1 | 8, 0);
         x.addParity(2 | 16, 0);
         x.addParity(4 | 32, 0);
@@ -95,7 +95,7 @@ public final class CircuitsTest {
         Check.due("30: order", order(x, 7), "0314256");
     }
 
-    private static String order(Countfall x, int variables) {
+    private static String order(Watched x, int variables) {
         StringBuilder order = new StringBuilder();
         for (int place = 0; place < variables; place++) {
             order.append(x.orderAt(place));
@@ -104,7 +104,7 @@ public final class CircuitsTest {
     }
 
     private static void greatCircuits() {
-        Countfall x = Check.with(10);
+        Watched x = Check.with(10);
         x.addParity(1023, 0);
         Check.due("26: parity of ten", x.nodes(), 19);
         Check.due("28: parity of ten", x.ways(), 512L);
@@ -118,7 +118,7 @@ public final class CircuitsTest {
     }
 
     private static void keep() {
-        Countfall x = Check.with(3);
+        Watched x = Check.with(3);
         x.addClause(5, 0);
         Check.due("31: keep", x.keep(3), 2);
         Check.due("36: modelsOf", x.modelsOf(3), 6L);
@@ -142,7 +142,7 @@ public final class CircuitsTest {
         }
         Check.thrown(x, "35: nothing", NoSuchElementException.class, () -> x.nodesOf(1));
         Check.thrown(x, "36: nothing", NoSuchElementException.class, () -> x.modelsOf(1));
-        Countfall y = Check.with(4);
+        Watched y = Check.with(4);
         y.addParity(5, 0);
         y.addParity(10, 0);
         Check.due("31: apart", y.keep(1), 9);
@@ -153,8 +153,8 @@ public final class CircuitsTest {
     }
 
     /** Slot 0 keeps those with 0 true, slot 1 those with 1 true, of three variables. */
-    private static Countfall two() {
-        Countfall x = Check.with(3);
+    private static Watched two() {
+        Watched x = Check.with(3);
         x.setEvidence(0, 1);
         x.keep(0);
         x.setEvidence(0, -1);
@@ -165,7 +165,7 @@ public final class CircuitsTest {
     }
 
     private static void join() {
-        Countfall x = two();
+        Watched x = two();
         Check.due("32: both", x.join(0, 1, 'a', 2), 2);
         Check.due("32: both", x.modelsOf(2), 2L);
         Check.due("32: one or both", x.join(0, 1, 'o', 2), 2);
@@ -185,7 +185,7 @@ public final class CircuitsTest {
     }
 
     private static void joinIntoItself() {
-        Countfall x = two();
+        Watched x = two();
         Check.due("32: into the first", x.join(0, 1, 'o', 0), 2);
         Check.due("32: into the first", x.modelsOf(0), 6L);
         Check.due("32: into the second", x.join(0, 1, 'x', 1), 2);
@@ -199,7 +199,7 @@ public final class CircuitsTest {
     }
 
     private static void fixAndFree() {
-        Countfall x = Check.with(3);
+        Watched x = Check.with(3);
         x.addClause(3, 4);
         x.keep(0);
         x.keep(1);
@@ -233,7 +233,7 @@ public final class CircuitsTest {
             Check.thrown(x, "33: variable", IndexOutOfBoundsException.class, () -> x.fix(0, bad, 0));
             Check.thrown(x, "34: variable", IndexOutOfBoundsException.class, () -> x.free(0, bad));
         }
-        Countfall y = Check.with(10);
+        Watched y = Check.with(10);
         y.addBound(1023, 10, 10);
         y.keep(0);
         Check.due("33: of ten", y.fix(0, 9, 1), 9);
@@ -242,7 +242,7 @@ public final class CircuitsTest {
     }
 
     private static void compare() {
-        Countfall x = two();
+        Watched x = two();
         Check.due("37: unlike", x.areSame(0, 1), false);
         Check.due("37: with itself", x.areSame(1, 1), true);
         Check.due("38: unlike", x.isWithin(0, 1) || x.isWithin(1, 0), false);
@@ -259,7 +259,7 @@ public final class CircuitsTest {
             Check.thrown(x, "38: slot", IllegalArgumentException.class, () -> x.isWithin(bad, 0));
             Check.thrown(x, "38: other", IllegalArgumentException.class, () -> x.isWithin(0, bad));
         }
-        Countfall y = Check.with(10);
+        Watched y = Check.with(10);
         y.addBound(1023, 10, 10);
         y.keep(0);
         y.setEvidence(9, 0);
@@ -270,7 +270,7 @@ public final class CircuitsTest {
     }
 
     private static void otherNumbers() {
-        Countfall x = two();
+        Watched x = two();
         x.addVariable();
         Check.due("36: of three variables still", x.modelsOf(0), 4L);
         Check.due("37: both of three", x.areSame(0, 1), false);
@@ -289,7 +289,7 @@ public final class CircuitsTest {
         Check.due("37: of four", x.areSame(0, 2), true);
         Check.due("31: into one of three", x.keep(1), 0);
         Check.due("35: it is of four now", x.nodesOf(1), 0);
-        Countfall y = new Countfall();
+        Watched y = new Watched();
         Check.due("31: without variables", y.keep(0), 0);
         Check.due("36: without variables", y.modelsOf(0), 1L);
         Check.due("32: without variables", y.join(0, 0, 'x', 1), 0);
@@ -300,7 +300,7 @@ public final class CircuitsTest {
     }
 
     private static void listedFirst() {
-        Countfall x = two();
+        Watched x = two();
         Check.thrown(x, "32: nothing kept", NoSuchElementException.class, () -> x.join(0, 2, 'a', 0));
         Check.thrown(x, "32: nothing kept", NoSuchElementException.class, () -> x.join(2, 0, 'a', 0));
         Check.thrown(x, "37: nothing kept", NoSuchElementException.class, () -> x.areSame(2, 0));
@@ -329,7 +329,7 @@ public final class CircuitsTest {
     }
 
     private static void densityAndMean() {
-        Countfall x = new Countfall();
+        Watched x = new Watched();
         Check.due("39: without variables", x.density(), 1.0f);
         Check.due("40: without variables", x.meanTrue(), 0.0);
         x.addVariable();
@@ -348,7 +348,7 @@ public final class CircuitsTest {
         x.setWeights(0, 0, 3);
         Check.due("39: whatever the weights", x.density(), 0.375f);
         Check.thrown(x, "40: weight 0", NoSuchElementException.class, x::meanTrue);
-        Countfall y = Check.with(10);
+        Watched y = Check.with(10);
         y.addBound(1023, 0, 3);
         Check.due("39: of ten", y.density(), 176.0f / 1024.0f);
     }

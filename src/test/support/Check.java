@@ -1,3 +1,6 @@
+import java.util.ArrayList;
+import java.util.NoSuchElementException;
+import java.util.List;
 import java.util.Objects;
 
 /** Compares answers with those that are due, and looks whether a call that throws changes anything. */
@@ -6,6 +9,12 @@ public final class Check {
     public interface Call {
         Object answer();
     }
+
+    public static final Class<IllegalArgumentException> ARGUMENT = IllegalArgumentException.class;
+    public static final Class<IllegalStateException> STATE = IllegalStateException.class;
+    public static final Class<IndexOutOfBoundsException> INDEX = IndexOutOfBoundsException.class;
+    public static final Class<NoSuchElementException> NOTHING = NoSuchElementException.class;
+    public static final Class<UnsupportedOperationException> UNLIKE = UnsupportedOperationException.class;
 
     private static int wrong = 0;
 
@@ -19,17 +28,24 @@ public final class Check {
         }
     }
 
-    /** The very class is due, as the machine's own exceptions are of classes below it. */
-    public static void thrown(Countfall x, String what, Class<? extends RuntimeException> want, Call call) {
-        String before = look(x);
-        Object got;
-        try {
-            got = call.answer();
-        } catch (RuntimeException e) {
-            got = e.getClass();
+    /**
+     * The very class is due, as the machine's own exceptions are of classes below it. Afterwards an
+     * object on which the call was made has to tell the same as one on which it was not.
+     */
+    public static void thrown(Watched x, String what, Class<? extends RuntimeException> want, Call call) {
+        List<Watched.Step<?>> answered = x.answered();
+        int calls = x.calls();
+        due(what, answerOf(call), want);
+        if (x.calls() != calls + 1) {
+            throw new AssertionError(what + ": the test has to make one call of the object that it looks at");
         }
-        due(what, got, want);
-        due(what + ", a look afterwards", look(x), before);
+        due(what + ", a look afterwards", lookAfter(answered, x.last()), Look.after(answered));
+    }
+
+    private static String lookAfter(List<Watched.Step<?>> answered, Watched.Step<?> refused) {
+        List<Watched.Step<?>> steps = new ArrayList<>(answered);
+        steps.add(counter -> answerOf(() -> refused.on(counter)));
+        return Look.after(steps);
     }
 
     public static void end() {
@@ -47,46 +63,38 @@ public final class Check {
         }
     }
 
-    /** All that an object tells without being changed. */
-    public static String look(Countfall x) {
-        StringBuilder seen = new StringBuilder();
-        seen.append(x.models()).append(' ').append(x.modelsByAll()).append(' ').append(x.weight());
-        seen.append(' ').append(x.nodes()).append(' ').append(x.ways()).append(' ').append(x.parts());
-        for (int i = 0; i < 21; i++) {
-            int number = i;
-            seen.append("\n").append(i).append(' ').append(answerOf(() -> x.kind(number)));
-            seen.append(' ').append(answerOf(() -> x.best(number)));
-            for (int a = 0; a < 1024; a += 1 + a / 8) {
-                int assignment = a;
-                seen.append(answerOf(() -> x.holds(number, assignment)) == Boolean.TRUE ? 1 : 0);
-            }
-        }
-        for (int i = 0; i < 11; i++) {
-            int variable = i;
-            seen.append("\n").append(i).append(' ').append(answerOf(() -> x.orderAt(variable)));
-            seen.append(' ').append(answerOf(() -> x.implied(variable)));
-            seen.append(' ').append(answerOf(() -> x.partOf(variable)));
-            seen.append(' ').append(answerOf(() -> x.weightOf(0)));
-            seen.append(' ').append(answerOf(() -> x.weightOf(1 << variable)));
-        }
-        for (int i = 0; i < 4; i++) {
-            int slot = i;
-            seen.append("\n").append(i).append(' ').append(answerOf(() -> x.modelsOf(slot)));
-            seen.append(' ').append(answerOf(() -> x.nodesOf(slot)));
-            for (int j = 0; j < 4; j++) {
-                int other = j;
-                seen.append(' ').append(answerOf(() -> x.isWithin(slot, other)));
-            }
-        }
-        return seen.toString();
-    }
-
     /** An object with as many variables as are told. */
-    public static Countfall with(int variables) {
-        Countfall x = new Countfall();
+    public static Watched with(int variables) {
+        Watched x = new Watched();
         for (int i = 0; i < variables; i++) {
             x.addVariable();
         }
         return x;
+    }
+
+    /** Numbers that are not from the least to the greatest: the nearest, farther ones, and those that cut short would be. */
+    public static int[] outside(int least, int greatest) {
+        int[] all = {
+            least - 1, greatest + 1, least - 2, greatest + 2, least - 10, greatest + 10, least + 32, greatest + 32,
+            least + 64, least + 256, least + 65536, 1 << 30, Integer.MAX_VALUE, Integer.MIN_VALUE,
+            Integer.MIN_VALUE + least, -greatest - 1,
+        };
+        int count = 0;
+        for (int number : all) {
+            if (number < least || number > greatest) {
+                all[count] = number;
+                count++;
+            }
+        }
+        return java.util.Arrays.copyOf(all, count);
+    }
+
+    /** Sets with one or more variables that are not there, some with ones that are. */
+    public static int[] setsOutside(int variables) {
+        int next = 1 << variables;
+        return new int[] {
+            next, next | 1, 2 * next - 1, 2 * next, 65536, 65536 | 1, 1 << 30, Integer.MAX_VALUE, Integer.MIN_VALUE,
+            Integer.MIN_VALUE | 1, -1, -2, -next,
+        };
     }
 }
