@@ -19,6 +19,7 @@ public final class ModelEdgesTest {
         luckyOfNothing();
         wrongLuck();
         first();
+        noWeight();
         noFirst();
         Check.end();
     }
@@ -299,6 +300,30 @@ public final class ModelEdgesTest {
         Check.due("25: whatever the weights", x.first(), 2);
         x.setEvidence(1, 0);
         Check.due("25: 0 alone", x.first(), 1);
+    }
+
+    /** Models that weigh nothing, all of them, are models all the same. */
+    private static void noWeight() {
+        for (int variable = 0; variable < 3; variable++) {
+            Watched x = Check.with(3);
+            x.addClause(7, 0);
+            x.setWeights(variable, 0, 0);
+            Check.due("25: no weight", x.first(), 4);
+            for (int rank = 0; rank < 7; rank++) {
+                Check.due("22: no weight", x.best(rank), new int[] {4, 2, 6, 1, 5, 3, 7}[rank]);
+            }
+            Check.thrown(x, "22: no weight", Check.NOTHING, () -> x.best(7));
+            Check.due("23: no weight", x.weightOf(7), 0L);
+            Check.due("11: no weight", x.models() * 10 + x.modelsByAll(), 77L);
+            Check.due("17: no weight", x.projected(7), 7L);
+            Check.due("18: no weight", x.implied(variable), '-');
+            Check.due("21: no weight", x.modelsOfPart(variable), 7L);
+            Check.due("26: no weight", x.nodes(), 3);
+            Check.due("28: no weight", x.ways(), 3L);
+            Check.due("31: no weight", x.keep(0), 3);
+            Check.due("36: no weight", x.modelsOf(0), 7L);
+            Check.due("39: no weight", x.density(), 7.0f / 8.0f);
+        }
     }
 
     private static void noFirst() {

@@ -14,6 +14,7 @@ public final class PartEdgesTest {
         modelsOfPart();
         constraintsWithoutPart();
         keptWithOtherEvidence();
+        keptWithAsMuchEvidence();
         keptWithOtherConstraints();
         keptWithOtherVariables();
         everyEvidence();
@@ -251,6 +252,26 @@ public final class PartEdgesTest {
         dueCounts("against the clause", y, 0, 0L);
     }
 
+    /** As many of the others are true as before, but not the same ones. */
+    private static void keptWithAsMuchEvidence() {
+        Watched x = Check.with(4);
+        x.addClause(1 | 4, 0);
+        x.addBound(1 | 2 | 8, 0, 1);
+        x.setEvidence(2, 1);
+        x.setEvidence(3, 0);
+        dueCounts("2 is true", x, 1, 3L);
+        x.setEvidence(2, 0);
+        x.setEvidence(3, 1);
+        dueCounts("3 is true", x, 1, 0L);
+        x.setEvidence(3, 0);
+        dueCounts("none is true", x, 1, 1L);
+        x.setEvidence(3, 1);
+        x.setEvidence(2, 1);
+        dueCounts("both are true", x, 1, 1L);
+        x.setEvidence(3, 0);
+        dueCounts("2 is true again", x, 1, 3L);
+    }
+
     private static void keptWithOtherConstraints() {
         Watched x = Check.with(2);
         x.addBound(3, 0, 0);
@@ -369,8 +390,10 @@ public final class PartEdgesTest {
                     Check.due("21: none any more", x.modelsOfPart(variable), 2L);
                 }
             }
-            Check.thrown(x, "20: no variable, all the same", Check.INDEX, () -> x.partOf(10));
-            Check.thrown(x, "21: no variable, all the same", Check.INDEX, () -> x.modelsOfPart(-1));
+            for (int bad : Check.outside(0, 9)) {
+                Check.thrown(x, "20: no variable " + bad + ", all the same", Check.INDEX, () -> x.partOf(bad));
+                Check.thrown(x, "21: no variable " + bad + ", all the same", Check.INDEX, () -> x.modelsOfPart(bad));
+            }
         }
     }
 }

@@ -5,6 +5,7 @@ import java.util.Arrays;
 import java.util.Comparator;
 import java.util.List;
 import java.util.Random;
+import java.util.Set;
 
 /**
  * Runs of as many calls as an object is promised for, drawn from written seeds, on a Countfall and on the
@@ -13,6 +14,10 @@ import java.util.Random;
 public final class RandomRunsTest {
     private static final int[] WRONG = {-1, -2, Integer.MIN_VALUE, Integer.MAX_VALUE, 1024, 1 << 20, 21, 10, 11};
     private static final String HOWS = "aoxaoxaoxb";
+    private static final Set<String> OF_PARTS = Set.of("addVariable", "addClause", "addParity", "addBound", "drop",
+            "setEvidence", "models", "modelsByAll", "modelsOfPart", "partOf");
+    private static final Set<String> OF_SLOTS = Set.of("addVariable", "addClause", "addParity", "drop", "setEvidence",
+            "keep", "join", "fix", "free", "nodesOf", "modelsOf", "areSame", "isWithin", "exchange");
 
     private final Random random;
     private final Countfall x = new Countfall();
@@ -33,7 +38,15 @@ public final class RandomRunsTest {
         for (int seed = 0; seed < 150; seed++) {
             new RandomRunsTest(seed).run(seed, face);
         }
+        for (int seed = 150; seed < 210; seed++) {
+            new RandomRunsTest(seed).run(seed, only(face, OF_PARTS));
+            new RandomRunsTest(seed).run(seed, only(face, OF_SLOTS));
+        }
         Check.end();
+    }
+
+    private static Method[] only(Method[] face, Set<String> names) {
+        return Arrays.stream(face).filter(m -> names.contains(m.getName())).toArray(Method[]::new);
     }
 
     private void run(int seed, Method[] face) throws ReflectiveOperationException {

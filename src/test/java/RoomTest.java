@@ -33,7 +33,7 @@ public final class RoomTest {
         return x;
     }
 
-    /** 38 calls. */
+    /** 36 calls. */
     private static long answerAll(Countfall x) {
         long sum = x.setWeights(0, 1, 2) + x.setEvidence(3, 1) + x.setEvidence(3, -1) + x.kind(4);
         sum += x.models() + x.modelsByAll() + x.weight() + x.weightWith(1, 1) + x.chanceTop(2) + x.chanceBottom(2);

@@ -26,6 +26,7 @@ public final class SlotEdgesTest {
         areSameAndIsWithin();
         lastAssignment();
         olderSets();
+        olderSetsStay();
         olderInto();
         unlikeOnes();
         withoutVariables();
@@ -527,6 +528,27 @@ public final class SlotEdgesTest {
             Check.due("37: itself older", x.areSame(1, 1), true);
             Check.due("38: both older", x.isWithin(1, 0), true);
             Check.due("35: as there are now", x.nodesOf(2), 0);
+        }
+    }
+
+    /** An older set stays as it is if it is refused. */
+    private static void olderSetsStay() {
+        for (int slot = 0; slot < 4; slot++) {
+            int old = slot;
+            Watched x = four();
+            x.addVariable();
+            for (int i = 0; i < 8; i++) {
+                int variable = i / 2;
+                int value = i % 2;
+                Check.thrown(x, "33: older, " + variable + " is " + value, Check.UNLIKE, () -> x.fix(old, variable, value));
+                Check.thrown(x, "34: older, " + variable, Check.UNLIKE, () -> x.free(old, variable));
+                Check.thrown(x, "32: older", Check.UNLIKE, () -> x.join(old, variable, "ox".charAt(value), variable));
+            }
+            x.keep((old + 1) % 4);
+            Check.thrown(x, "32: one older", Check.UNLIKE, () -> x.join(old, (old + 1) % 4, 'o', old));
+            Check.thrown(x, "32: one older", Check.UNLIKE, () -> x.join((old + 1) % 4, old, 'x', old));
+            Check.thrown(x, "32: one older", Check.UNLIKE, () -> x.join(old, (old + 1) % 4, 'a', (old + 1) % 4));
+            Check.due("36: as it was", x.modelsOf(old), 4L);
         }
     }
 

@@ -423,7 +423,8 @@ public final class VariableEdgesTest {
         }
         Watched y = Check.with(10);
         for (int i = 0; i < 20; i++) {
-            int number = i % 3 == 0 ? y.addClause(1023, 0) : i % 3 == 1 ? y.addBound(1023, 0, 10) : y.addParity(1 << i % 10, 0);
+            int number = i % 3 == 0 ? y.addClause(1023, 0)
+                    : i % 3 == 1 ? y.addBound(1023, 0, 10) : y.addParity(1 << i % 10, 0);
             Check.due("4, 5, 6: one count of numbers", number, i);
         }
         Check.due("11: 20 constraints", y.models(), y.modelsByAll());

@@ -1,6 +1,7 @@
 import java.util.ArrayList;
-import java.util.NoSuchElementException;
+import java.util.Arrays;
 import java.util.List;
+import java.util.NoSuchElementException;
 import java.util.Objects;
 
 /** Compares answers with those that are due, and looks whether a call that throws changes anything. */
@@ -72,7 +73,7 @@ public final class Check {
         return x;
     }
 
-    /** Numbers that are not from the least to the greatest: the nearest, farther ones, and those that cut short would be. */
+    /** Numbers not from the least to the greatest: the nearest, far ones, and some that are if they are cut short. */
     public static int[] outside(int least, int greatest) {
         int[] all = {
             least - 1, greatest + 1, least - 2, greatest + 2, least - 10, greatest + 10, least + 32, greatest + 32,
@@ -86,7 +87,7 @@ public final class Check {
                 count++;
             }
         }
-        return java.util.Arrays.copyOf(all, count);
+        return Arrays.copyOf(all, count);
     }
 
     /** Sets with one or more variables that are not there, some with ones that are. */
